@@ -1049,6 +1049,8 @@ public final class TwoKnobs {
         // 1, 0 or -1: which way x and y go from the EDGE's first CORNER to its second
         final int[] waysX = new int[EDGE_LIMIT];
         final int[] waysY = new int[EDGE_LIMIT];
+        // the EDGES ahead of an EDGE that have the same two CORNERS, as bits
+        final int[] twins = new int[EDGE_LIMIT];
 
         private boolean isKnown = false;
         private final int[] prices = new int[EDGE_LIMIT];
@@ -1072,6 +1074,7 @@ public final class TwoKnobs {
             oddCorners = 0;
             for (int e = 0; e < edges; e++) {
                 learnEdge(e, state);
+                twins[e] = twinsAhead(e);
                 oddCorners ^= ends[e];
             }
             together = edges == 0 || hangsOn(froms[0], allEdges());
@@ -1094,6 +1097,14 @@ public final class TwoKnobs {
             waysX[e] = Integer.compare(dx, 0);
             waysY[e] = Integer.compare(dy, 0);
             prices[e] = Math.max(Math.abs(dx), Math.abs(dy)) * perLength;
+        }
+
+        private int twinsAhead(int e) {
+            int bits = 0;
+            for (int i = 0; i < e; i++) {
+                bits |= ends[i] == ends[e] ? 1 << i : 0;
+            }
+            return bits;
         }
 
         int allEdges() {
@@ -1289,7 +1300,9 @@ public final class TwoKnobs {
         private void goOn(int gone, Net net) {
             int corner = wheres[gone];
             for (int e = 0; e < net.edges; e++) {
-                if ((gone >> e & 1) == 0 && (net.ends[e] >> corner & 1) == 1) {
+                // of EDGES between the same CORNERS one is as good as another: the first goes first
+                boolean isNext = (gone >> e & 1) == 0 && (net.twins[e] & ~gone) == 0;
+                if (isNext && (net.ends[e] >> corner & 1) == 1) {
                     int then = gone | (1 << e);
                     int sense = net.froms[e] == corner ? 1 : -1;
                     come(then, net.otherEnd(e, corner));

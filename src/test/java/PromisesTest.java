@@ -190,6 +190,15 @@ public final class PromisesTest {
         faultOf("turnturn 1 2;", 0);
         faultOf("Turn 1 2;", 0);
         faultOf("turN 1 2;", 0);
+        faultOf("turnz 1 2;", 0);
+        faultOf("aturn 1 2;", 0);
+        faultOf("turn`1 2;", 4);
+        faultOf("turn{1 2;", 4);
+        faultOf("turn /1 2;", 5);
+        faultOf("turn 90 09:", 10);
+        faultOf("turn 5- 3;", 6);
+        faultOf("turn 1-234;", 6);
+        faultOf("turn 1turn 2;", 6);
         faultOf("turn 1 2 3;", 9);
         faultOf("turn 1 2;;", 9);
         faultOf(";", 0);
