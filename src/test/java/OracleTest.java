@@ -15,6 +15,7 @@ public final class OracleTest {
     private static int wrong = 0;
 
     public static void main(String[] args) {
+        Due.begin("OracleTest");
         int runs = args.length > 0 ? Integer.parseInt(args[0]) : 600;
         int first = args.length > 1 ? Integer.parseInt(args[1]) : 0;
         for (int seed = first; seed < first + runs && wrong < 20; seed++) {
@@ -31,12 +32,16 @@ public final class OracleTest {
     // ---------------------------------------------------------------- one run
 
     private static final class Run {
+        // an object answers for 512 calls; a step makes less than 24, and 4 are made in the end
+        static final int CALLS = 512 - 28;
+
         final int seed;
         final Random random;
         final TwoKnobs real = new TwoKnobs();
         final Naive naive = new Naive();
         final List<String> log = new ArrayList<>();
         final int style;
+        int calls = 0;
 
         Run(int seed) {
             this.seed = seed;
@@ -45,7 +50,7 @@ public final class OracleTest {
         }
 
         void play() {
-            for (int i = 0; i < 500; i++) {
+            for (int i = 0; i < CALLS && calls < CALLS; i++) {
                 if (!step() || i % 25 == 24 && !due("digest()", real.digest(), naive.digest())) {
                     return;
                 }
@@ -56,7 +61,9 @@ public final class OracleTest {
             }
         }
 
+        /** Behind each one call of the real object. */
         boolean due(String call, long got, long want) {
+            calls++;
             log.add(call + " = " + got);
             if (got == want) {
                 return true;
@@ -150,7 +157,7 @@ public final class OracleTest {
                 int how = pick(20) == 0 ? 0 : 1;
                 right = due("see", real.see(at[0], at[1], how), naive.see(at[0], at[1], how));
             }
-            for (int i = 0; i < 8 && right; i++) {
+            for (int i = 0; i < 6 && right; i++) {
                 int v = 1 + pick(9), p = pick(4), x = pick(24), y = 7 + pick(9);
                 right = due("put(8," + v + ")", real.put(8, v), naive.put(8, v))
                     && due("odds(" + p + ")", real.odds(p), naive.odds(p)) && wholeFraction()
