@@ -490,6 +490,7 @@ public final class StateTest {
         statusOfOtherNumbers();
         statusOfAnswersThatAreNone();
         statusOfWhatIsNone();
+        statusChangesNothing();
     }
 
     private static void statusIs(TwoKnobs x, int bad, int no, int full) {
@@ -566,12 +567,20 @@ public final class StateTest {
         statusIs(x, 10, 0, 0);
     }
 
+    private static void statusChangesNothing() {
+        Due.sentence("34: a question changes nothing");
+        Due.asked("status(0)", Due::rich, x -> x.status(0), 1);
+        Due.asked("status(1)", Due::rich, x -> x.status(1), 1);
+        Due.asked("status(2)", Due::rich, x -> x.status(2), 0);
+    }
+
     // ---- promise 35: counts
 
     private static void counts() {
         countsOfEach();
         countsUpToTheMost();
         countsOfWhatIsNone();
+        countsChangeNothing();
     }
 
     private static void countsAre(TwoKnobs x, int... wants) {
@@ -616,6 +625,15 @@ public final class StateTest {
         Due.sentence("35: BAD: what 0 .. 8");
         for (int what : new int[] {-1, 9, MIN, MAX}) {
             Due.bad("count(" + what + ")", x -> x.count(what));
+        }
+    }
+
+    private static void countsChangeNothing() {
+        Due.sentence("35: a question changes nothing");
+        int[] wants = {3, 4, 5, 2, 6, 39, 6, 11, 33};
+        for (int what = 0; what < 9; what++) {
+            int i = what;
+            Due.asked("count(" + i + ")", Due::rich, x -> x.count(i), wants[i]);
         }
     }
 
